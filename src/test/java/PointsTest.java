@@ -31,6 +31,8 @@ public final class PointsTest {
         Due.is("winner(25)", x.winner(25), 2);
         Due.is("winner(26)", x.winner(26), RangeRules.OUTSIDE);
         Due.is("winner(-1)", x.winner(-1), RangeRules.OUTSIDE);
+        Due.is("the last one away", x.remove(2), 2);
+        Due.is("it wins no more", x.winner(25), NONE);
         RangeRules none = new RangeRules();
         Due.is("no rules", none.winner(0), RangeRules.STATE);
         Due.is("outside ahead of that", none.winner(26), RangeRules.OUTSIDE);
@@ -212,6 +214,7 @@ public final class PointsTest {
                 Due.is("pair " + pair[0] + ", " + pair[1], x.day(1, 2, 0, 2, what), RangeRules.OUTSIDE);
             }
             Due.is("it is not taken", x.day(1, 2, 0, 1, 1), NONE);
+            Due.is("it is the first", x.day(1, 2, 2, 1, 1), RangeRules.OUTSIDE);
         }
         int[][] right = {{1, 0}, {9, 6}, {0, 10}, {0, 16}, {0, 20}, {5, 20}};
         for (int[] pair : right) {

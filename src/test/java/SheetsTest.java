@@ -160,5 +160,9 @@ public final class SheetsTest {
             faulted("copy " + w[0] + " " + w[1] + " " + w[2], x, x.copy(0, w[0], 1, w[1], w[2]), -13, 3);
         }
         rowIs("nothing came", x, 1, 1, 7, 8);
+        faulted("a fault", x, x.copy(0, 0, 1, 0, -1), -13, 3);
+        faulted("one that comes to none clears it", x, x.copy(0, 0, 1, 0, 0), 0, 0);
+        faulted("a fault", x, x.copy(0, 0, 1, 0, -1), -13, 3);
+        faulted("a refusal, too", x, x.copy(0, 0, 4, 0, -1), RangeRules.UNKNOWN, 0);
     }
 }
