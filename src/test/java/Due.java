@@ -2,22 +2,32 @@
 final class Due {
     private static int wrong = 0;
     private static int compared = 0;
+    // What of the document is being tested: told ahead of each answer that is not the due one.
+    private static String about = "";
 
     private Due() {
+    }
+
+    static void about(String what) {
+        about = what;
+    }
+
+    static int compared() {
+        return compared;
     }
 
     static void is(String call, long got, long want) {
         compared++;
         if (got == want) return;
         wrong++;
-        System.out.println(call + " answered " + got + ", due is " + want);
+        System.out.println(about + call + " answered " + got + ", due is " + want);
     }
 
     static void holds(String what, boolean so) {
         compared++;
         if (so) return;
         wrong++;
-        System.out.println("does not hold: " + what);
+        System.out.println(about + "does not hold: " + what);
     }
 
     /** Puts a text's codes on a new row of a lane. */
