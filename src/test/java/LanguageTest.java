@@ -22,6 +22,14 @@ public final class LanguageTest {
     private static final Set<String> CONSTANTS = new TreeSet<>(List.of(
         "UNKNOWN -1", "OUTSIDE -2", "STATE -3", "FULL -4", "NONE -9", "LOST -9223372036854775808"));
 
+    private static final Set<Class<?>> CONSTANT_TYPES = Set.of(
+        int.class, long.class, boolean.class, char.class, String.class,
+        int[].class, long[].class, char[].class, byte[].class);
+    private static final int SEEN_OUTSIDE = Modifier.PUBLIC | Modifier.PROTECTED;
+    // Of what LANGUAGE.md lets the class use, no more than it does use.
+    private static final Set<String> LIBRARY = Set.of(
+        "System.arraycopy", "Math.max", "Math.min", "Long.MIN_VALUE");
+
     private LanguageTest() {
     }
 
@@ -32,6 +40,8 @@ public final class LanguageTest {
         insideClasses();
         String source = Files.readString(Path.of("src/main/java/RangeRules.java"));
         words(source);
+        library(source);
+        nothingIsMadeLater(source);
         methodLengths(source);
         Due.end("LanguageTest");
     }
@@ -46,6 +56,7 @@ public final class LanguageTest {
                     Arrays.stream(method.getParameterTypes()).allMatch(type -> type == int.class));
             } else {
                 Due.holds(method + " is private", Modifier.isPrivate(modifiers) || method.isSynthetic());
+                Due.holds(method + " bears no name of the face", !faceNames().contains(method.getName()));
             }
             Due.holds(method + " has at most seven parameters", method.getParameterCount() <= 7);
         }
@@ -73,24 +84,68 @@ public final class LanguageTest {
     }
 
     private static void insideClasses() {
-        Set<String> faceNames = new TreeSet<>();
-        for (String method : FACE) faceNames.add(method.split(" ")[1]);
+        fields(RangeRules.class);
         Class<?>[] inside = RangeRules.class.getDeclaredClasses();
         Due.holds("some twelve classes at most", inside.length < 12);
         for (Class<?> one : inside) {
             Due.holds(one + " is static", Modifier.isStatic(one.getModifiers()));
+            Due.holds(one + " is private or package-visible", (one.getModifiers() & SEEN_OUTSIDE) == 0);
             for (Method method : one.getDeclaredMethods()) {
-                Due.holds(method + " bears no name of the face", !faceNames.contains(method.getName()));
+                Due.holds(method + " bears no name of the face", !faceNames().contains(method.getName()));
             }
-            for (Field field : one.getDeclaredFields()) {
-                int modifiers = field.getModifiers();
-                Due.holds(field + " is no static state", !Modifier.isStatic(modifiers) || Modifier.isFinal(modifiers));
+            fields(one);
+        }
+    }
+
+    private static void fields(Class<?> one) {
+        int own = 0;
+        for (Field field : one.getDeclaredFields()) {
+            int modifiers = field.getModifiers();
+            if (!Modifier.isStatic(modifiers)) {
+                own++;
+                continue;
             }
+            Due.holds(field + " is final", Modifier.isFinal(modifiers));
+            Due.holds(field + " is a constant of a type that may be", CONSTANT_TYPES.contains(field.getType()));
+        }
+        Due.holds(one + " has some twenty fields at most", own <= 20);
+    }
+
+    private static Set<String> faceNames() {
+        Set<String> names = new TreeSet<>();
+        for (String method : FACE) names.add(method.split(" ")[1]);
+        return names;
+    }
+
+    private static String withoutComments(String source) {
+        return source.replaceAll("(?s)/\\*.*?\\*/", "").replaceAll("//[^\n]*", "");
+    }
+
+    private static void library(String source) {
+        Set<String> own = new TreeSet<>();
+        for (Class<?> one : RangeRules.class.getDeclaredClasses()) own.add(one.getSimpleName());
+        Matcher uses = Pattern.compile("\\b([A-Z][a-z]\\w*)\\.\\w+").matcher(withoutComments(source));
+        while (uses.find()) {
+            Due.holds(uses.group() + " may be used", own.contains(uses.group(1)) || LIBRARY.contains(uses.group()));
+        }
+    }
+
+    /** All calls of a run live in one room: what is made is made by constructors, and by fields as they begin. */
+    private static void nothingIsMadeLater(String source) {
+        Pattern head = Pattern.compile("^( +)(?!if|for|while|switch|else)[A-Za-z].*\\) \\{$");
+        Pattern constructor = Pattern.compile("^ +(public )?[A-Z][A-Za-z]*\\(.*\\) \\{$");
+        String endOfMethod = "";
+        for (String line : withoutComments(source).split("\n")) {
+            Matcher method = head.matcher(line);
+            if (method.matches() && !constructor.matcher(line).matches()) endOfMethod = method.group(1) + "}";
+            boolean makes = Pattern.compile("\\bnew\\b|\\.clone\\(").matcher(line).find();
+            if (makes) Due.holds("made as the object is made: " + line.trim(), endOfMethod.isEmpty());
+            if (line.equals(endOfMethod)) endOfMethod = "";
         }
     }
 
     private static void words(String source) {
-        String code = source.replaceAll("(?s)/\\*.*?\\*/", "").replaceAll("//[^\n]*", "");
+        String code = withoutComments(source);
         for (String word : new String[] {
             "throw", "throws", "try", "catch", "synchronized", "assert", "import", "package", "protected", "native",
             "volatile", "Exact", "equals", "hashCode", "toString", "Object", "Random", "Thread", "static \\{", "->",
